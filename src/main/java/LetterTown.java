@@ -44,7 +44,7 @@ public final class LetterTown {
     private final long[] pennies = new long[31];
     private long chainRow;
     private int chainLength;
-    private final Weeks weeks = new Weeks();
+    private final Weeks running = new Weeks();
     private final Weeks kept = new Weeks();
 
     public LetterTown() {
@@ -389,42 +389,42 @@ public final class LetterTown {
         if (out < 0 || out > 20 || told.people == 0) {
             throw new IllegalArgumentException("weeks not as told, or no PEOPLE");
         }
-        weeks.start(seed, out);
+        running.start(seed, out);
     }
 
     public int on(int weeks) throws IllegalArgumentException {
         if (weeks < 0 || weeks > 60) {
             throw new IllegalArgumentException("weeks not as told");
         }
-        if (!this.weeks.begun || this.weeks.size + weeks > Weeks.MOST_WEEKS) {
+        if (!running.begun || running.size + weeks > Weeks.MOST_WEEKS) {
             return NONE;
         }
         asked.copy(told);
         Play play = playAsked();
         play.choose();
         for (int i = 0; i < weeks; i++) {
-            this.weeks.runOne(play);
+            running.runOne(play);
         }
-        return this.weeks.size;
+        return running.size;
     }
 
     public int week(int week, int what) throws NoSuchElementException {
         needWhat(what, 2);
-        if (week < 0 || week >= weeks.size) {
+        if (week < 0 || week >= running.size) {
             throw new NoSuchElementException("no such week");
         }
         if (what == 0) {
-            return weeks.openers[week];
+            return running.openers[week];
         }
-        int hand = weeks.hands[week];
+        int hand = running.hands[week];
         return what == 1 || hand == 0 ? hand : told.pence(hand);
     }
 
     public boolean image() {
-        if (!weeks.begun) {
+        if (!running.begun) {
             return false;
         }
-        kept.copy(weeks);
+        kept.copy(running);
         return true;
     }
 
@@ -432,7 +432,7 @@ public final class LetterTown {
         if (!kept.begun) {
             return false;
         }
-        weeks.copy(kept);
+        running.copy(kept);
         return true;
     }
 
@@ -448,7 +448,7 @@ public final class LetterTown {
         guesses.clear();
         letters.clear();
         chainLength = 0;
-        weeks.clear();
+        running.clear();
         kept.clear();
         small.forget();
         if (large != null) {
@@ -524,7 +524,7 @@ public final class LetterTown {
         // Bits of whom it may not be sent to at all: the second of TWO letters has one.
         private int leftOut;
 
-        Town() {
+        private Town() {
             reset();
         }
 
@@ -646,7 +646,7 @@ public final class LetterTown {
         private int code;
         private int place;
 
-        Reader(int[] tape) {
+        private Reader(int[] tape) {
             text = tape;
         }
 
@@ -686,21 +686,17 @@ public final class LetterTown {
                 }
             } else if (isDigit(text[at])) {
                 kind = NUMBER;
-                takeDigits();
+                value = 0;
+                digits = 0;
+                while (at < length && isDigit(text[at])) {
+                    if (digits < 4) {
+                        value = value * 10 + text[at] - '0';
+                    }
+                    digits++;
+                    at++;
+                }
             } else {
                 kind = text[at] == ';' ? SIGN : OTHER;
-                at++;
-            }
-        }
-
-        private void takeDigits() {
-            value = 0;
-            digits = 0;
-            while (at < length && isDigit(text[at])) {
-                if (digits < 4) {
-                    value = value * 10 + text[at] - '0';
-                }
-                digits++;
                 at++;
             }
         }
@@ -937,7 +933,7 @@ public final class LetterTown {
         private int laidFor = NONE;
         private boolean fits;
 
-        Ways(int hands, int slotCount) {
+        private Ways(int hands, int slotCount) {
             room = hands;
             keys = new long[hands];
             may = new int[hands];
@@ -1069,7 +1065,7 @@ public final class LetterTown {
         private boolean gainsStand;
         private int gainsOf;
 
-        Play(int hands, int slots) {
+        private Play(int hands, int slots) {
             ways = new Ways(hands, slots);
             endings = new long[hands];
             gains = new long[hands * PEOPLE];
@@ -1464,7 +1460,7 @@ public final class LetterTown {
         private final long[] odds = new long[GUESSES * Rows.MOST_ROWS];
         private final long[] shares = new long[GUESSES];
 
-        Guesses() {
+        private Guesses() {
             Arrays.fill(sorts, NONE);
         }
 
