@@ -99,6 +99,11 @@ public final class RestTest {
         LetterTown y = c.town(Check.people(8, "sends"));
         y.theft(255, 8);
         thieves(y, 255, 255, 1, 255, 0);
+        LetterTown w = c.town(Check.people(3, "sends"));
+        w.theft(5, 1);
+        w.theft(6, 1);
+        // {0,1} {2}
+        thieves(w, 0, 7, 2, 4, 0);
         LetterTown z = c.town(Check.people(3, "sends"));
         z.theft(6, 1);
         z.theft(1, 1);

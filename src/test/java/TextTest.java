@@ -79,6 +79,18 @@ public final class TextTest {
         c.due("no people", x.count(0), 0);
         c.due("refused stays", x.count(13), 1);
         c.due("blanks alone", Check.tell(x, " \n  \n"), 0);
+        Check.feed(x, "wax 12;");
+        c.due("a number cut off by n", x.town(5), 1);
+        c.due("its place", x.fault(), 5);
+        Check.feed(x, "wax 123;");
+        c.due("a number cut off by n can stand", x.town(6), 1);
+        c.due("its place", x.fault(), 6);
+        Check.feed(x, "law once;law");
+        c.due("a word cut off by n", x.town(7), 1);
+        c.due("its place", x.fault(), 4);
+        Check.feed(x, "person sendsx;");
+        c.due("a word cut off by n can stand", x.town(12), 1);
+        c.due("its place", x.fault(), 12);
     }
 
     private static LetterTown busy() {

@@ -42,7 +42,7 @@ final class TownText {
         switch (sort) {
             case 0: return "opens " + (r.nextInt(8) == 0 ? r.nextInt(10000) : 2 + r.nextInt(30));
             case 1: return "sends";
-            case 2: return "luck " + (r.nextInt(6) == 0 ? 1000 * r.nextInt(2) : r.nextInt(700));
+            case 2: return "luck " + (r.nextInt(6) == 0 ? 333 * r.nextInt(4) + r.nextInt(2) : r.nextInt(700));
             default: return r.nextBoolean() ? "best" : "best name " + (r.nextInt(9) == 0 ? r.nextInt(10000) : r.nextInt(20));
         }
     }

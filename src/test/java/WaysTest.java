@@ -93,6 +93,10 @@ public final class WaysTest {
         c.due("of the other", x.gets(1), 14000 * 750 / 1000);
         x = c.town("person luck 1;person sends;knows 0 1;letter 0 1 2;");
         c.due("of luck, below nothing", x.gets(0), -999);
+        x = c.town("person luck 999;person sends;knows 0 1;letter 0 1 2 pays 9;");
+        c.due("of luck, nearly sure", x.gets(0), 8);
+        c.due("of luck, nearly sure", x.gets(1), 1);
+        c.due("of luck, nearly sure", x.goes(0), 1000000);
     }
 
     private static void best() {
@@ -176,6 +180,8 @@ public final class WaysTest {
         c.due("gets to 2", x.one(1, 2, 1, 1), 2000);
         c.due("n by 5", x.one(1, 10, 5, 0), 0);
         c.due("60 of them", x.one(1, 59, 1, 0), 3);
+        c.due("to 9999", x.one(1, 9999, 170, 0), 0);
+        c.due("to 9999, gets", x.one(1, 9999, 9999, 1), 2000);
         c.due("of the first", x.one(0, 20, 1, 0), 4);
         c.due("gets of the first", x.one(0, 20, 1, 1), 3000);
         c.due("sort stays", x.person(1, 0), 1);
