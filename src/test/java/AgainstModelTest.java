@@ -1,35 +1,12 @@
-import java.util.NoSuchElementException;
 import java.util.Random;
 
 /** Runs of drawn calls on drawn towns: each answer is the Model's, or it throws what that throws. */
 public final class AgainstModelTest {
-    private static int wrong = 0;
-    private static int calls = 0;
+    private static final Check check = new Check();
     private static final int[] seen = new int[31];
-    private static final StringBuilder log = new StringBuilder();
 
-    private interface Call { long of() throws RuntimeException; }
-
-    private static String answer(Call call) {
-        try {
-            return Long.toString(call.of());
-        } catch (RuntimeException e) {
-            return e.getClass().getName();
-        }
-    }
-
-    private static void same(String name, Call got, Call want) {
-        String due = answer(want);
-        String was = answer(got);
-        calls++;
-        log.append(name).append(" -> ").append(was).append('\n');
-        if (!was.equals(due)) {
-            wrong++;
-            if (wrong <= 3) {
-                System.out.println(log);
-                System.out.println("^ due is " + due);
-            }
-        }
+    private static void same(String what, Check.Call got, Check.Call want) {
+        check.same(what, got, want);
     }
 
     private static long bit(boolean b) { return b ? 1 : 0; }
@@ -37,16 +14,14 @@ public final class AgainstModelTest {
     public static void main(String[] args) {
         int runs = args.length > 0 ? Integer.parseInt(args[0]) : 1200;
         int from = args.length > 1 ? Integer.parseInt(args[1]) : 0;
-        for (int run = from; run < from + runs && wrong < 3; run++) {
-            log.setLength(0);
-            log.append("run ").append(run).append('\n');
+        for (int run = from; run < from + runs && !check.failed(); run++) {
+            check.run("run " + run);
             oneRun(new Random(run), run % 40 == 39);
         }
-        for (int i = 0; i < seen.length; i++) {
-            if (seen[i] == 0 && runs >= 100) { wrong++; System.out.println("no call of kind " + i); }
+        for (int i = 0; i < seen.length && runs >= 100 && !check.failed(); i++) {
+            check.due("calls of kind " + i + ", if any", seen[i] > 0, true);
         }
-        System.out.println(calls + " calls, " + wrong + " wrong");
-        if (wrong != 0) System.exit(1);
+        check.end();
     }
 
     private static void oneRun(Random r, boolean big) {
@@ -56,14 +31,14 @@ public final class AgainstModelTest {
         for (int i = 0; i < towns; i++) {
             if (i > 0 || r.nextInt(4) > 0) tellTown(x, m, r, TownText.draw(r, big));
             int more = big ? 12 : 40;
-            for (int j = 0; j < more && wrong < 3; j++) call(x, m, r);
+            for (int j = 0; j < more && !check.failed(); j++) call(x, m, r);
         }
     }
 
     private static void tellTown(LetterTown x, Model m, Random r, String text) {
         if (r.nextInt(6) == 0) text = TownText.spoil(r, text);
         text = text.substring(0, Math.min(700, text.length()));
-        log.append("text ").append(text).append('\n');
+        check.tell("text " + text);
         for (int at = 0; at < text.length(); at += 20) {
             int[] a = new int[5];
             for (int i = 0; i < 20; i++) a[i / 4] = a[i / 4] << 8 | (at + i < text.length() ? text.charAt(at + i) : ' ');

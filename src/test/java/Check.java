@@ -9,6 +9,7 @@ final class Check {
 
     private int wrong = 0;
     private int done = 0;
+    private final StringBuilder tale = new StringBuilder();
 
     void due(String what, long got, long want) {
         done++;
@@ -22,18 +23,47 @@ final class Check {
         due(what, got ? 1 : 0, want ? 1 : 0);
     }
 
-    void thrown(String what, String name, Call call) {
-        done++;
-        String was;
+    private static String answer(Call call) {
         try {
-            was = "answered " + call.of();
+            return Long.toString(call.of());
         } catch (RuntimeException e) {
-            was = e.getClass().getName();
+            return e.getClass().getName();
         }
-        if (!was.equals(name)) {
+    }
+
+    private void compare(String what, String was, String due) {
+        done++;
+        if (!was.equals(due)) {
             wrong++;
-            System.out.println(what + " " + was + ", due is " + name);
+            System.out.println(what + " answered " + was + ", due is " + due);
         }
+    }
+
+    void thrown(String what, String name, Call call) {
+        compare(what, answer(call), name);
+    }
+
+    /** Starts the tale of a run, which is printed with the first call of it that is wrong. */
+    void run(String name) {
+        tale.setLength(0);
+        tale.append(name);
+    }
+
+    void tell(String what) {
+        tale.append('\n').append(what);
+    }
+
+    /** Both calls answer the same, or throw the same. */
+    void same(String what, Call got, Call want) {
+        String due = answer(want);
+        String was = answer(got);
+        tell(what);
+        compare(was.equals(due) ? what : tale.toString(), was, due);
+        tale.append(" -> ").append(was);
+    }
+
+    boolean failed() {
+        return wrong > 0;
     }
 
     void end() {

@@ -5,27 +5,10 @@ public final class ExtremesTest {
     private static final int[] FAR = {Integer.MIN_VALUE, Integer.MIN_VALUE + 1, -1000000007, -256, -2, -1, 0, 1, 2, 3, 7, 8, 9,
         12, 13, 20, 21, 30, 31, 32, 60, 61, 99, 100, 255, 256, 700, 1000, 1001, 9999, 10000, 65536, 1 << 30,
         Integer.MAX_VALUE - 1, Integer.MAX_VALUE};
-    private static int wrong = 0;
-    private static int calls = 0;
+    private static final Check check = new Check();
 
-    private interface Call { long of(); }
-
-    private static String answer(Call call) {
-        try {
-            return Long.toString(call.of());
-        } catch (RuntimeException e) {
-            return e.getClass().getName();
-        }
-    }
-
-    private static void same(String name, Call got, Call want) {
-        String was = answer(got);
-        String due = answer(want);
-        calls++;
-        if (!was.equals(due)) {
-            wrong++;
-            if (wrong < 20) System.out.println(name + " was " + was + ", due is " + due);
-        }
+    private static void same(String what, Check.Call got, Check.Call want) {
+        check.same(what, got, want);
     }
 
     private static int far(Random r) {
@@ -33,17 +16,17 @@ public final class ExtremesTest {
     }
 
     public static void main(String[] args) {
-        for (int run = 0; run < 400; run++) {
+        for (int run = 0; run < 400 && !check.failed(); run++) {
+            check.run("run " + run);
             Random r = new Random(run);
             LetterTown x = new LetterTown();
             Model m = new Model();
-            for (int i = 0; i < 500; i++) {
+            for (int i = 0; i < 500 && !check.failed(); i++) {
                 if (r.nextInt(60) == 0) tell(x, m, TownText.draw(r, false));
                 one(x, m, r);
             }
         }
-        System.out.println(calls + " calls, " + wrong + " wrong");
-        if (wrong != 0) System.exit(1);
+        check.end();
     }
 
     private static void tell(LetterTown x, Model m, String text) {
