@@ -1120,7 +1120,9 @@ public final class LetterTown {
         private void reckonHand(int node) {
             int who = Ways.whoOf(ways.keys[node]);
             if (town.sort[who] == BEST) {
-                choices[node] = bestOf(node);
+                int liked = likedMost(node);
+                boolean isSent = liked >= 0 && worthOf(node, liked) > openingOf(node);
+                choices[node] = isSent ? liked : NONE;
             }
             int share = shareOpened(node);
             if (share >= 1000) {
@@ -1160,11 +1162,10 @@ public final class LetterTown {
             if (weights <= 0) {
                 return;
             }
-            long pence = 1000L * town.pence(Ways.handOf(ways.keys[node]));
             for (int c = 0; c < columnCount; c++) {
                 int p = columns[c];
                 long sent = Math.floorDiv(sums[p], weights) * (1000 - share);
-                long opened = p == who ? pence * share : 0;
+                long opened = p == who ? openingOf(node) * share : 0;
                 gains[node * PEOPLE + p] = Math.floorDiv(opened + sent, 1000L);
             }
             endings[node] = ending / weights * (1000 - share) / 1000;
@@ -1204,13 +1205,9 @@ public final class LetterTown {
             return liked;
         }
 
-        private int bestOf(int node) {
-            int liked = likedMost(node);
-            if (liked < 0) {
-                return NONE;
-            }
-            long opening = 1000L * town.pence(Ways.handOf(ways.keys[node]));
-            return worthOf(node, liked) > opening ? liked : NONE;
+        /** What he who has it gets by opening it ahead of its END. */
+        private long openingOf(int node) {
+            return 1000L * town.pence(Ways.handOf(ways.keys[node]));
         }
 
         /** How many of 1000 CASES are opened at a HAND. */
@@ -1519,7 +1516,9 @@ public final class LetterTown {
                 return;
             }
             for (int g = 0; g < GUESSES; g++) {
-                shares[g] = shares[g] * 1000000 / together;
+                if (isTold(g)) {
+                    shares[g] = shares[g] * 1000000 / together;
+                }
             }
         }
     }
