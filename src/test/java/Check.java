@@ -89,6 +89,19 @@ final class Check {
         return x.town(text.length());
     }
 
+    /** A TEXT told to a new object: its FAULT and the place, and that all stays as it was. */
+    void read(String text, int code, int place) {
+        LetterTown x = new LetterTown();
+        due("'" + text + "'", tell(x, text), code);
+        due("'" + text + "' place", x.fault(), place);
+        due("'" + text + "' refused", x.count(13), code == 0 ? 0 : 1);
+        due("'" + text + "' empties the tape", x.count(9), 0);
+        int[] atFirst = {0, 1, 1, 8, 0, 0, 0, 1, 0};
+        for (int i = 0; code != 0 && i < atFirst.length; i++) {
+            due("'" + text + "' leaves count " + i, x.count(i), atFirst[i]);
+        }
+    }
+
     /** A town that is told without a FAULT. */
     LetterTown town(String text) {
         LetterTown x = new LetterTown();

@@ -136,13 +136,7 @@ public final class TextTest {
     }
 
     private static void read(String text, int code, int place) {
-        LetterTown x = new LetterTown();
-        c.due("'" + text + "'", Check.tell(x, text), code);
-        c.due("'" + text + "' place", x.fault(), place);
-        c.due("'" + text + "' refused", x.count(13), code == 0 ? 0 : 1);
-        if (code != 0) {
-            c.due("'" + text + "' all stays", x.count(0), 0);
-        }
+        c.read(text, code, place);
     }
 
     private static void tokens() {
