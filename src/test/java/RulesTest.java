@@ -1,3 +1,5 @@
+import java.io.PrintWriter;
+import java.io.StringWriter;
 import java.lang.reflect.Constructor;
 import java.lang.reflect.Field;
 import java.lang.reflect.Method;
@@ -7,8 +9,13 @@ import java.nio.file.Path;
 import java.util.ArrayList;
 import java.util.Arrays;
 import java.util.List;
+import java.util.Map;
 import java.util.Set;
+import java.util.TreeMap;
 import java.util.TreeSet;
+import java.util.regex.Matcher;
+import java.util.regex.Pattern;
+import java.util.spi.ToolProvider;
 
 /** The face and what of LANGUAGE.md can be seen from the class and its text. Run from the project's root. */
 public final class RulesTest {
@@ -35,6 +42,8 @@ public final class RulesTest {
         face();
         inside();
         text();
+        depth();
+        room();
         System.out.println(wrong == 0 ? "all rules hold" : wrong + " do not hold");
         if (wrong != 0) System.exit(1);
     }
@@ -108,5 +117,89 @@ public final class RulesTest {
                 method = false;
             }
         }
+    }
+
+    /** Rule 11, by what javap shows: no chain of calls is longer than eight, and none comes back to itself. */
+    private static void depth() throws Exception {
+        ToolProvider javap = ToolProvider.findFirst("javap").orElse(null);
+        if (javap == null) {
+            System.out.println("there is no javap: how deep calls go is not looked at");
+            return;
+        }
+        Map<String, Set<String>> calls = new TreeMap<>();
+        Path place = Path.of(LetterTown.class.getProtectionDomain().getCodeSource().getLocation().toURI());
+        List<String> names = new ArrayList<>(List.of("LetterTown"));
+        for (Class<?> k : LetterTown.class.getDeclaredClasses()) names.add(k.getName());
+        for (String name : names) tellCalls(name, shown(javap, place.resolve(name + ".class")), calls);
+        hold(calls.size() > 100, "javap shows " + calls.size() + " methods");
+        for (String method : calls.keySet()) deep(method, calls, new ArrayList<>());
+    }
+
+    private static String shown(ToolProvider javap, Path file) {
+        StringWriter out = new StringWriter();
+        PrintWriter printed = new PrintWriter(out);
+        javap.run(printed, printed, "-c", "-p", file.toString());
+        printed.flush();
+        return out.toString();
+    }
+
+    private static void tellCalls(String name, String shown, Map<String, Set<String>> calls) {
+        Pattern head = Pattern.compile("^  \\S.*?([\\w$.]+)\\(.*\\)( throws .*)?;$");
+        Pattern call = Pattern.compile("invoke\\w+ .*// (?:Interface)?Method ([^:]+):");
+        Set<String> now = new TreeSet<>();
+        for (String line : shown.split("\\R")) {
+            Matcher h = head.matcher(line);
+            Matcher k = call.matcher(line);
+            if (h.matches()) {
+                String method = h.group(1).equals(name) ? "\"<init>\"" : h.group(1);
+                now = calls.computeIfAbsent(name + "." + method, x -> new TreeSet<>());
+            } else if (k.find()) {
+                String to = k.group(1);
+                now.add(to.indexOf('.') < 0 ? name + "." + to : to);
+            }
+        }
+    }
+
+    private static void deep(String method, Map<String, Set<String>> calls, List<String> way) {
+        hold(!way.contains(method), "comes back to itself: " + way + " " + method);
+        if (way.contains(method)) return;
+        way.add(method);
+        hold(way.size() <= 8, "too deep: " + way);
+        for (String next : calls.getOrDefault(method, Set.of())) deep(next, calls, way);
+        way.remove(way.size() - 1);
+    }
+
+    /** All that an object keeps, once a town of 20,000 HANDS has been asked: a small part of the room. */
+    private static void room() throws Exception {
+        LetterTown x = new LetterTown();
+        long atFirst = elements(x, new ArrayList<>());
+        hold(atFirst < 50000, "a new object has " + atFirst + " fields and elements");
+        Check.tell(x, Check.full("sends"));
+        x.goes(0);
+        x.gets(0);
+        long elements = elements(x, new ArrayList<>());
+        hold(elements < 600000, "a large town has " + elements + " fields and elements");
+        for (int i = 0; i < 20; i++) {
+            x.all(0);
+            x.two(0, 0);
+            x.named(0);
+            x.chain(2);
+            x.feeling(1 + i);
+        }
+        hold(elements(x, new ArrayList<>()) == elements, "calls leave something behind");
+    }
+
+    private static long elements(Object of, List<Object> seen) throws Exception {
+        for (Object s : seen) if (s == of) return 0;
+        seen.add(of);
+        if (of.getClass().isArray()) return java.lang.reflect.Array.getLength(of);
+        long sum = 0;
+        for (Field f : of.getClass().getDeclaredFields()) {
+            if (Modifier.isStatic(f.getModifiers())) continue;
+            sum++;
+            f.setAccessible(true);
+            if (!f.getType().isPrimitive() && f.get(of) != null) sum += elements(f.get(of), seen);
+        }
+        return sum;
     }
 }
