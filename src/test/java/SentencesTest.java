@@ -8,6 +8,7 @@ public final class SentencesTest {
     private static final int ALL = 1000000000;
 
     public static void main(String[] args) {
+        spentWhateverIsDone();
         penceAreNotFelt();
         luckCutDown();
         endsCutDown();
@@ -62,6 +63,17 @@ public final class SentencesTest {
         c.due(what + ": THE CHAIN", x.chain(law), chance);
         for (int i = 0; i < people.length; i++) {
             c.due(what + ": THE CHAIN's hand " + i, x.chained(i), people[i]);
+        }
+    }
+
+    /** "more than 20,000 HANDS that can be come to (by those it MAY be sent to, whatever is done)": of each SORT. */
+    private static void spentWhateverIsDone() {
+        String[] sorts = {"opens 0", "opens 9999", "sends", "luck 0", "luck 1000", "best", "best name 9999"};
+        int[] hand = {1, 12, 12, 12, 1, 1, 12};
+        for (int i = 0; i < sorts.length; i++) {
+            LetterTown x = c.town(Check.spent(sorts[i]));
+            c.thrown(sorts[i] + ": 20,001 HANDS", Check.IAE, () -> x.goes(1));
+            c.due(sorts[i] + ": 20,000 HANDS", c.town(Check.full(sorts[i])).goes(1), (long) hand[i] * ALL);
         }
     }
 
